@@ -1664,12 +1664,12 @@ public final class NailedBoxes {
             }
         }
 
-        /** The sold ones change only where the price passes what something is kept for, so only those are tried. */
+        /** What is kept for more is worth no less, so with more things sold the mean never falls: the best mean will do. */
         int restPrice() {
             int greatest = NONE;
             for (int thing = 0; thing < MOST_THINGS; thing++) {
                 if (pool[thing] > 0) {
-                    int price = Math.min(meanOfSold(kept[thing]), keptAbove(kept[thing]) - 1);
+                    int price = meanOfSold(kept[thing]);
                     greatest = price >= kept[thing] ? Math.max(greatest, price) : greatest;
                 }
             }
@@ -1686,16 +1686,6 @@ public final class NailedBoxes {
                 }
             }
             return shares > 0 ? (int) (together / shares) : NONE;
-        }
-
-        private int keptAbove(int price) {
-            int least = MOST_COINS + 1;
-            for (int thing = 0; thing < MOST_THINGS; thing++) {
-                if (pool[thing] > 0 && kept[thing] > price) {
-                    least = Math.min(least, kept[thing]);
-                }
-            }
-            return least;
         }
 
         private boolean isSold(int thing, int price) {

@@ -19,6 +19,9 @@ public final class BoxesTest {
         lend();
         lendTwenty();
         bring();
+        nothingOfFormerBoxes();
+        nameIsTheFirst();
+        nothingTold();
         Kit.end();
     }
 
@@ -475,5 +478,60 @@ public final class BoxesTest {
         Kit.due("in June", x.bring(3), false);
         Kit.refused("bring()", x, 7, 0, 0);
         Kit.due("rows of the record", x.told(0, 3), 2);
+    }
+
+    private static void nothingOfFormerBoxes() {
+        NailedBoxes x = Kit.village(Kit.FAIRS);
+        x.image();
+        for (int round = 0; round < 2; round++) {
+            x.box(4, 3);
+            x.box(0, 1);
+            Kit.due("KNOWS " + round, x.told(1, 5), 1);
+            Kit.due("not in a BOX " + round, x.told(0, 2), -1);
+            Kit.due("HOLDERS " + round, x.holds(1, 2, 100), true);
+            Kit.due("LENT " + round, x.lend(1, 4, 10, 0), 0);
+            Kit.due("of BOX 1", x.loan(0, 0), 1);
+            Kit.due("not BROUGHT BACK yet", x.loan(0, 5), 0);
+            x.open(1);
+            Kit.due("BROUGHT BACK " + round, x.bring(0), true);
+            Kit.due("to whom " + round, x.told(1, 1), 0);
+            x.sell(0, 0, 0);
+            x.into(0, 1);
+            if (round == 0) {
+                x.back(0);
+            }
+        }
+        Kit.tell(x, Kit.FAIRS);
+        x.box(4, 3);
+        x.box(0, 1);
+        Kit.due("HOLDERS of a new VILLAGE's", x.holds(1, 0, 100), true);
+        Kit.due("and of the other", x.holds(0, 11, 1), false);
+        Kit.due("and of the other", x.holds(0, 5, 100), true);
+    }
+
+    private static void nameIsTheFirst() {
+        NailedBoxes x = Kit.village("thing a 100 10 1;thing b 50 20 2;who n name 9;who m fair 9;");
+        x.box(0, 0);
+        x.say(0, 1);
+        x.sell(0, 1, 1);
+        likely("SAID b and SOLD", x, 0, 58823, 941176);
+    }
+
+    /** What says nothing leaves all as it was, however often. */
+    private static void nothingTold() {
+        NailedBoxes x = three();
+        x.box(4, 0);
+        x.box(5, 1);
+        x.box(0, 1);
+        x.sell(2, 1, 1);
+        for (int k = 0; k < 40; k++) {
+            x.say(0, 1);
+            x.sell(0, k % 2 == 0 ? 0 : 4, 0);
+            x.say(2, 1);
+            x.say(1, 1);
+            x.sell(2, k % 2 == 0 ? 0 : 1, 0);
+        }
+        likely("chain and unknowing", x, 0, 333333, 333333, 333333);
+        likely("sworn", x, 1, 0, 1000000, 0);
     }
 }

@@ -5,12 +5,16 @@ public final class JuneTest {
         holds();
         june();
         apart();
+        apartOfTheFirst();
         known();
+        knownFromTheFirst();
         heavy();
         came();
         wanted();
+        wantedLittle();
         rows();
         wrong();
+        wrongAgain();
         Kit.end();
     }
 
@@ -275,5 +279,50 @@ public final class JuneTest {
         u.box(0, 0);
         u.row(0, 1, 0, 9999);
         Kit.due("who hasn't it pays nothing", u.wrong(1), -1);
+    }
+
+    private static void apartOfTheFirst() {
+        NailedBoxes x = pairs();
+        x.box(0, 0);
+        x.box(0, 1);
+        Kit.toJune(x);
+        Kit.due("in hands of the first", x.apart(), 0);
+    }
+
+    private static void knownFromTheFirst() {
+        NailedBoxes x = Kit.village(Kit.FAIRS);
+        x.box(0, 0);
+        x.say(0, 0);
+        Kit.toJune(x);
+        Kit.due("the first row", x.known(0, 2), 1);
+    }
+
+    private static void wantedLittle() {
+        NailedBoxes x = Kit.village("thing a 1 5 1;thing b 10 6 1;who p fair 0;who q fair 0;pair a b 1;");
+        x.box(0, 0);
+        x.box(1, 1);
+        Kit.due("ahead of June", x.wanted(0, 0), -1);
+        Kit.toJune(x);
+        Kit.due("by q", x.wanted(0, 0), 1);
+        Kit.due("1 more", x.wanted(0, 1), 1);
+        x.holds(0, 0, 1);
+        Kit.due("1 hundredth is held", x.wanted(0, 0), -1);
+        x.holds(0, 0, 0);
+        Kit.due("none is held", x.wanted(0, 0), 1);
+        x.holds(1, 0, 1);
+        Kit.due("the other one is held", x.wanted(0, 0), -1);
+    }
+
+    private static void wrongAgain() {
+        NailedBoxes x = Kit.village(Kit.FAIRS);
+        x.box(0, 0);
+        x.image();
+        x.row(0, 1, 2, 1);
+        x.row(0, 0, 2, 1);
+        Kit.due("who hadn't it", x.wrong(0), 0);
+        Kit.due("who paid too much", x.wrong(1), 1);
+        x.back(0);
+        Kit.due("no row", x.wrong(0), -1);
+        Kit.due("no row", x.wrong(1), -1);
     }
 }

@@ -10,6 +10,8 @@ public final class VillageTest {
         things();
         people();
         counts();
+        nothingOfFormerTexts();
+        manyTokens();
         Kit.end();
     }
 
@@ -107,6 +109,9 @@ public final class VillageTest {
         fine(" \n ", 0);
         fine("thing a1 2 3;", 1);
         fine("keeps10;weigh0;shake\n0005\n;", 3);
+        fine("keeps 0;weigh 10;shake 0;shake 10;thing a 0 0 0 spoils 0;", 5);
+        fault("weigh 11;", 6);
+        fault("shake 11;", 6);
         fine("thing abcdefgh 999 99 9 spoils 99;who things sworn 9999;", 2);
         fault("thing", 5);
         fault("thing  ", 7);
@@ -282,5 +287,40 @@ public final class VillageTest {
         for (int what : new int[] {-1, 14, Integer.MIN_VALUE, Integer.MAX_VALUE}) {
             Kit.due("count(" + what + ")", x.count(what), -1);
         }
+    }
+
+    private static void nothingOfFormerTexts() {
+        NailedBoxes x = new NailedBoxes();
+        String busy = "thing a 10 3 1;thing b 20 3 2;who p fair 5;who q best 7;fills p 1 a;fills q 2 b;pair a b 4;keeps 1;weigh 1;shake 1;";
+        for (int k = 0; k < 3; k++) {
+            Kit.due("busy", Kit.tell(x, busy), 10);
+            Kit.due("a FAULT", Kit.tell(x, busy + "pair a b 0;"), -1);
+        }
+        Kit.due("plain", Kit.tell(x, "thing c 100 3 1;thing d 20 4 2;who r fair 5;"), 3);
+        Kit.due("pairs", x.count(2), 0);
+        Kit.due("keeps", x.thing(0, 20), 80);
+        Kit.due("SHARE of c", x.who(0, 10), 1);
+        Kit.due("SHARE of d", x.who(0, 11), 1);
+        x.box(0, 0);
+        x.sign(0, 0, 3);
+        Kit.due("weigh 8", x.think(0, 0), 800000);
+        x.box(0, 0);
+        x.sign(1, 1, 1);
+        Kit.due("shake 6", x.think(1, 0), 600000);
+        Kit.due("again", Kit.tell(x, "who r fair 5;thing c 100 3 1;"), 2);
+        Kit.due("keeps again", x.thing(0, 20), 80);
+        Kit.due("SHARE again", x.who(0, 10), 1);
+    }
+
+    private static void manyTokens() {
+        NailedBoxes x = new NailedBoxes();
+        for (String text : new String[] {";".repeat(900), "a,".repeat(450), "1".repeat(900), "a".repeat(900), "a1".repeat(450)}) {
+            Kit.lay(x, text);
+            Kit.due("village(900)", x.village(900), -1);
+            Kit.due("fault()", x.fault(), 0);
+        }
+        Kit.lay(x, "keeps" + " ".repeat(895));
+        Kit.due("village(900)", x.village(900), -1);
+        Kit.due("fault() at the end", x.fault(), 900);
     }
 }
