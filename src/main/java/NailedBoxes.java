@@ -49,10 +49,10 @@ public final class NailedBoxes {
 
     private final byte[] tape = new byte[MOST_BYTES];
     private int tapeLength = 0;
-    private final Reader reader = new Reader(tape);
+    private final Reader reader = new Reader();
     private Village village = new Village();
     private int faultPlace = NONE;
-    private State state = new State();
+    private final State state = new State();
     private final State[] images = new State[MOST_IMAGES];
     private int imageCount = 0;
     private final int[] refused = new int[REASONS];
@@ -95,7 +95,7 @@ public final class NailedBoxes {
             refuse(NOT_AS_TOLD);
             return NOT_A_TEXT;
         }
-        faultPlace = reader.read(n);
+        faultPlace = reader.read(tape, n);
         tapeLength = 0;
         if (faultPlace != NONE) {
             return refuse(A_FAULT);
@@ -869,7 +869,6 @@ public final class NailedBoxes {
         private static final int SPOILS = 7;
         private static final int FIRST_MANNER = 8;
 
-        private final byte[] text;
         // of each token: where it begins, its kind, how many bytes, its value, its place in WORDS
         private final int[] starts = new int[MOST_BYTES + 1];
         private final int[] kinds = new int[MOST_BYTES + 1];
@@ -881,13 +880,9 @@ public final class NailedBoxes {
         private int faultAt = NONE;
         Village draft = new Village();
 
-        Reader(byte[] text) {
-            this.text = text;
-        }
-
         /** The fault's place in the first n bytes, or NONE. */
-        int read(int n) {
-            split(Math.max(0, Math.min(n, Math.min(MOST_BYTES, text.length))));
+        int read(byte[] text, int n) {
+            split(text, Math.min(n, Math.min(MOST_BYTES, text.length)));
             draft.clear();
             at = 0;
             faultAt = NONE;
@@ -1035,7 +1030,7 @@ public final class NailedBoxes {
         }
 
         /** The last token is the end, which no rule takes. */
-        private void split(int length) {
+        private void split(byte[] text, int length) {
             tokens = 0;
             int former = BLANK;
             for (int place = 0; place < length; place++) {
@@ -1900,16 +1895,22 @@ public final class NailedBoxes {
 
     /** How likely each number of coins is, from box to box. */
     private static final class Chances {
+        private final int[] worth = new int[MOST_THINGS];
+        private final int[] shares = new int[MOST_THINGS];
         private long[] coinsNow = new long[MOST_COINS + 1];
         private long[] coinsThen = new long[MOST_COINS + 1];
 
         int ofLasting(Village village, int who, int month, int coins, int price, int n) {
+            for (int thing = 0; thing < MOST_THINGS; thing++) {
+                worth[thing] = village.worthOf(thing, month);
+                shares[thing] = village.shareOf(who, thing);
+            }
             Arrays.fill(coinsNow, 0L);
             if (coins >= 0 && coins < coinsNow.length) {
                 coinsNow[coins] = CERTAIN;
             }
             for (int box = 0; box < n; box++) {
-                buy(village, who, month, price);
+                buy(price, Math.max(1, village.allSharesOf(who)));
             }
             long all = 0;
             for (int left = 0; left <= MOST_COINS; left++) {
@@ -1918,11 +1919,11 @@ public final class NailedBoxes {
             return (int) (all / (CERTAIN / MILLION));
         }
 
-        private void buy(Village village, int who, int month, int price) {
+        private void buy(int price, int allShares) {
             Arrays.fill(coinsThen, 0L);
             for (int coins = Math.max(0, price); coins <= MOST_COINS; coins++) {
                 if (coinsNow[coins] > 0) {
-                    share(village, who, month, coins, price);
+                    openBox(coins, coins - price, Math.max(1, allShares));
                 }
             }
             long[] former = coinsNow;
@@ -1930,12 +1931,11 @@ public final class NailedBoxes {
             coinsThen = former;
         }
 
-        private void share(Village village, int who, int month, int coins, int price) {
-            int shares = Math.max(1, village.allSharesOf(who));
-            for (int thing = 0; thing < village.things.rows; thing++) {
-                int left = Math.min(MOST_COINS, coins - price + village.worthOf(thing, month));
-                if (left >= 0 && left <= MOST_COINS) {
-                    coinsThen[left] += coinsNow[coins] * village.shareOf(who, thing) / shares;
+        private void openBox(int coins, int paid, int allShares) {
+            for (int thing = 0; thing < MOST_THINGS; thing++) {
+                int left = Math.min(MOST_COINS, paid + worth[thing]);
+                if (shares[thing] > 0 && left >= 0) {
+                    coinsThen[left] += coinsNow[coins] * shares[thing] / allShares;
                 }
             }
         }
