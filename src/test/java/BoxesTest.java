@@ -391,6 +391,9 @@ public final class BoxesTest {
         x.box(1, 0);
         likely("thirds", x, 1, 333333, 666666);
         Kit.due("MEAN", x.mean(1), 99833);
+        NailedBoxes y = Kit.village("thing a 999 10 1;thing b 998 10 2;who f fair 999;fills f 2 a,1 b;");
+        y.box(0, 0);
+        Kit.due("MEAN, cut", y.mean(0), 99866);
         for (int k = 0; k < 14; k++) {
             x.say(1, 0);
         }
@@ -504,6 +507,10 @@ public final class BoxesTest {
         Kit.tell(x, Kit.FAIRS);
         x.box(4, 3);
         x.box(0, 1);
+        Kit.due("KNOWS of a new VILLAGE's", x.told(1, 5), 1);
+        Kit.due("LENT in a new VILLAGE", x.lend(1, 4, 10, 0), 0);
+        Kit.due("not BROUGHT BACK yet", x.loan(0, 5), 0);
+        Kit.due("BROUGHT BACK", x.bring(0), true);
         Kit.due("HOLDERS of a new VILLAGE's", x.holds(1, 0, 100), true);
         Kit.due("and of the other", x.holds(0, 11, 1), false);
         Kit.due("and of the other", x.holds(0, 5, 100), true);
@@ -520,18 +527,40 @@ public final class BoxesTest {
     /** What says nothing leaves all as it was, however often. */
     private static void nothingTold() {
         NailedBoxes x = three();
-        x.box(4, 0);
-        x.box(5, 1);
-        x.box(0, 1);
-        x.sell(2, 1, 1);
-        for (int k = 0; k < 40; k++) {
-            x.say(0, 1);
-            x.sell(0, k % 2 == 0 ? 0 : 4, 0);
-            x.say(2, 1);
-            x.say(1, 1);
-            x.sell(2, k % 2 == 0 ? 0 : 1, 0);
+        int chain = x.box(4, 0);
+        int sworn = x.box(5, 1);
+        int unknowing = x.box(4, 0);
+        x.sell(unknowing, 5, 1);
+        for (int k = 0; k < 97; k++) {
+            x.say(chain, 1);
+            x.say(sworn, 1);
+            x.say(unknowing, 1);
         }
-        likely("chain and unknowing", x, 0, 333333, 333333, 333333);
-        likely("sworn", x, 1, 0, 1000000, 0);
+        likely("chain", x, chain, 333333, 333333, 333333);
+        likely("sworn", x, sworn, 0, 1000000, 0);
+        likely("unknowing", x, unknowing, 333333, 333333, 333333);
+
+        NailedBoxes y = three();
+        int box = y.box(4, 0);
+        y.open(box);
+        for (int k = 0; k < 150; k++) {
+            y.sell(box, k % 2 == 0 ? 5 : 4, 0);
+            y.open(box);
+        }
+        likely("SOLD by chain, sworn", y, box, 333333, 333333, 333333);
+        box = y.box(0, 0);
+        for (int k = 0; k < 148; k++) {
+            y.sell(box, k % 2 == 0 ? 1 : 0, 0);
+        }
+        likely("SOLD by fair, by name unknowing", y, box, 333333, 333333, 333333);
+
+        NailedBoxes z = three();
+        box = z.box(1, 0);
+        z.sell(box, 4, 0);
+        z.open(box);
+        for (int k = 0; k < 298; k++) {
+            z.sell(box, k % 2 == 0 ? 1 : 4, 0);
+        }
+        likely("SOLD by name, who didn't say", z, box, 333333, 333333, 333333);
     }
 }
