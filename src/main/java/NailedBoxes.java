@@ -473,7 +473,7 @@ public final class NailedBoxes {
     }
 
     public int hours(int who, int month, int k, int what) {
-        boolean known = village.people.has(who) && isMonth(month) && k >= NONE
+        boolean known = fills(who) && isMonth(month) && k >= NONE
                 && (what == 0 || what == 1 && k != NONE);
         return known ? market.hoursOf(village, who, month, k, what) : NONE;
     }

@@ -263,15 +263,22 @@ public final class AskingTest {
             none("lost", x.lost(0, 0));
             none("law", x.law(0));
             none("best", x.best(0, 0));
+            none("its REST", x.best(0, 1));
             none("little", x.little(0, 0, 0));
             none("weight", x.weight(0, 0));
             none("hours", x.hours(0, 0, 0, 0));
+            none("how many hours", x.hours(0, 0, -1, 0));
+            none("what is SOLD in the hours", x.hours(0, 0, 0, 1));
             none("lasts", x.lasts(0, 0, 0, 0, 1));
             none("liars", x.liars(0, 0, 0));
             none("honest", x.honest(0, 0, 0));
+            none("TOP", x.honest(0, 0, 1));
             none("name", x.name(0, 0, 0));
+            none("name's lower number", x.name(0, 0, 1));
             none("fill", x.fill(0, 0, 0, 0));
+            none("what it brings", x.fill(0, 0, 0, 1));
             none("years", x.years(0, 1, 0));
+            none("how often", x.years(0, 1, 10));
             Kit.refused("asking", x, 0, 0, 0);
         }
     }
