@@ -6,6 +6,8 @@ import java.util.TreeSet;
 
 /** A drawn village, and what the document's words say of it, by the plainest counting: prices tried one by one, great integers. */
 final class PlainVillage {
+    private static final String[] MANNERS = {"fair", "name", "lemon", "best", "chain", "sworn"};
+
     final int things;
     final int people;
     final int[] worth;
@@ -13,7 +15,12 @@ final class PlainVillage {
     final int[] sound;
     final int[] spoils;
     final int[][] share;
+    final int[] manner;
+    final int[] purse;
+    final List<int[]> pairs = new ArrayList<>();
     final int keeps;
+    final int weigh;
+    final int shake;
     final String text;
 
     PlainVillage(Random draw) {
@@ -24,7 +31,11 @@ final class PlainVillage {
         sound = new int[things];
         spoils = new int[things];
         share = new int[people][things];
+        manner = new int[people];
+        purse = new int[people];
         keeps = draw.nextInt(11);
+        weigh = draw.nextInt(11);
+        shake = draw.nextInt(11);
         int most = draw.nextBoolean() ? 999 : 20;
         int mostShare = draw.nextBoolean() ? 99 : 4;
         StringBuilder all = new StringBuilder();
@@ -37,10 +48,23 @@ final class PlainVillage {
                     .append(' ').append(sound[t]).append(spoils[t] > 0 ? " spoils " + spoils[t] : "").append(';');
         }
         for (int w = 0; w < people; w++) {
-            all.append("who p").append((char) ('a' + w)).append(" fair 1;");
+            manner[w] = draw.nextInt(6);
+            purse[w] = draw.nextInt(draw.nextBoolean() ? 10000 : 99);
+            all.append("who p").append((char) ('a' + w)).append(' ').append(MANNERS[manner[w]]).append(' ').append(purse[w]).append(';');
             drawShares(draw, w, mostShare, all);
         }
-        text = all.append("keeps ").append(keeps).append(';').toString();
+        drawPairs(draw, all);
+        text = all.append("keeps ").append(keeps).append(";weigh ").append(weigh).append(";shake ").append(shake).append(';').toString();
+    }
+
+    private void drawPairs(Random draw, StringBuilder all) {
+        for (int k = draw.nextInt(7); k > 0 && things > 1; k--) {
+            int one = draw.nextInt(things);
+            int other = (one + 1 + draw.nextInt(things - 1)) % things;
+            int brings = 1 + draw.nextInt(999);
+            pairs.add(new int[] {one, other, brings});
+            all.append("pair t").append((char) ('a' + one)).append(" t").append((char) ('a' + other)).append(' ').append(brings).append(';');
+        }
     }
 
     private void drawShares(Random draw, int w, int mostShare, StringBuilder all) {
