@@ -243,7 +243,7 @@ public final class AskingTest {
         Kit.due("about a quarter", a > 200 && a < 300, true);
         Kit.due("no SHARE", x.years(1, 9, 10), 0);
         Kit.due("a whole SHARE", x.years(1, 9, 11), 9);
-        // z = 0: 1442695040888963407 by 2^33 is 167951930, modulo 4 is 2: b
+        // z = 0: 1442695040888963407 by 2^33 is 167951807, modulo 4 is 3: b
         x.seed(0);
         Kit.due("first of seed 0", x.years(0, 1, 11), 1);
         none("n 0", x.years(0, 0, 0));

@@ -91,30 +91,40 @@ public final class ImagesTest {
         x.seed(5);
     }
 
-    private static void back() {
+    /** Busy, then changed, an IMAGE of each. */
+    private static NailedBoxes changed() {
         NailedBoxes x = busy();
-        long first = all(x);
         x.image();
         change(x);
-        long second = all(x);
-        Kit.due("it's another", first != second, true);
         x.image();
+        return x;
+    }
+
+    /** Several objects, for all() asks too much for one to be asked often. */
+    private static void back() {
+        long first = all(busy());
+        long second = all(changed());
+        Kit.due("it's another", first != second, true);
+        NailedBoxes x = changed();
         Kit.due("back", x.back(0), true);
         Kit.due("all as it was", all(x), first);
         change(x);
         Kit.due("the same again", all(x), second);
-        Kit.toJune(x);
-        long june = all(x);
-        x.back(1);
-        Kit.due("the second IMAGE", all(x), second);
-        x.back(0);
-        Kit.due("the first IMAGE still", all(x), first);
-        Kit.toJune(x);
-        Kit.due("HOLDERS as they were", x.june(2), 6);
-        x.back(1);
-        Kit.toJune(x);
-        Kit.due("June of the second", all(x), june);
+        NailedBoxes y = changed();
+        Kit.toJune(y);
+        long june = all(y);
+        y.back(1);
+        Kit.due("the second IMAGE", all(y), second);
+        NailedBoxes z = changed();
+        z.back(1);
+        z.back(0);
+        Kit.due("the first IMAGE still", all(z), first);
+        Kit.toJune(z);
+        Kit.due("HOLDERS as they were", z.june(2), 6);
+        z.back(1);
+        Kit.toJune(z);
+        Kit.due("June of the second", all(z), june);
         // dot: 300, less 100, 5 for lending it on, 20 hundredths of 10
-        Kit.due("HOLDERS of the second", x.june(3), 207);
+        Kit.due("HOLDERS of the second", z.june(3), 207);
     }
 }

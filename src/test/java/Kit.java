@@ -6,20 +6,33 @@ final class Kit {
             + "fills ann 1 ham,3 stone;fills bob 1 ham,1 stone,2 cake;fills eve 1 left,1 right;"
             + "pair left right 50;keeps 8;weigh 9;shake 6;";
 
+    /** What no number of a box, a thing, a row, a question is, however many there are. */
+    static final int[] NEVER = {-1, -2, Integer.MIN_VALUE, Integer.MAX_VALUE};
+
     private static int wrong = 0;
+    private static String sentence = "";
 
     private Kit() {
+    }
+
+    /** The document's words that are tested from now on; promise 0 is its Terms. SentencesTest looks them up in it. */
+    static void sentence(int promise, String words) {
+        sentence = (promise == 0 ? "Terms" : "promise " + promise) + " '" + words + "': ";
     }
 
     static void due(String call, long got, long want) {
         if (got != want) {
             wrong++;
-            System.out.println(call + " answered " + got + ", due is " + want);
+            System.out.println(sentence + call + " answered " + got + ", due is " + want);
         }
     }
 
     static void due(String call, boolean got, boolean want) {
         due(call, got ? 1 : 0, want ? 1 : 0);
+    }
+
+    static void none(String call, long got) {
+        due(call, got, NailedBoxes.NONE);
     }
 
     /** The text is laid on the tape with blanks behind it, and its own length is told. */
